@@ -141,7 +141,7 @@ public final class ModeratorsBench {
         }
         Case opened = new Case(number, blamed, broken, now);
         cases.add(opened);
-        blamed.append(opened);
+        blamed.addCase(opened);
         return number;
     }
 
@@ -309,12 +309,12 @@ public final class ModeratorsBench {
     }
 
     public int known(int c, int guilty) {
-        Case told = caseAt(c);
-        if (told == null || !within(guilty, UNKNOWN, 1)) {
+        Case subject = caseAt(c);
+        if (subject == null || !within(guilty, UNKNOWN, 1)) {
             return KNOWN_REFUSED;
         }
-        int before = told.knownGuilt;
-        told.knownGuilt = guilty;
+        int before = subject.knownGuilt;
+        subject.knownGuilt = guilty;
         restDoubtedJudges();
         return before;
     }
@@ -642,7 +642,7 @@ public final class ModeratorsBench {
             this.came = came;
         }
 
-        private void append(Case opened) {
+        private void addCase(Case opened) {
             if (lastCase == null) {
                 firstCase = opened;
             } else {
@@ -761,12 +761,12 @@ public final class ModeratorsBench {
             return guiltyWeight > otherWeight;
         }
 
-        private boolean hasVoteOf(Judge judge) {
+        private boolean hasVoter(Judge judge) {
             return (voters & judge.bit) != 0;
         }
 
-        private int standOf(Judge judge, int knownGuilt) {
-            if (!hasVoteOf(judge) || (knownGuilt == UNKNOWN && !over)) {
+        private int standAgainst(Judge judge, int knownGuilt) {
+            if (!hasVoter(judge) || (knownGuilt == UNKNOWN && !over)) {
                 return NOT_ASKED;
             }
             boolean right = knownGuilt == UNKNOWN ? findsGuilty() : knownGuilt == 1;
@@ -828,7 +828,7 @@ public final class ModeratorsBench {
         }
 
         private boolean hasVoteOf(Judge judge) {
-            return first.hasVoteOf(judge) || second != null && second.hasVoteOf(judge);
+            return first.hasVoter(judge) || second != null && second.hasVoter(judge);
         }
 
         private void hearAgain(int tick) {
@@ -865,9 +865,9 @@ public final class ModeratorsBench {
 
         /** A judge votes once on a case at most, so at most one of the two hearings asks of it. */
         private int standOf(Judge judge) {
-            int stand = first.standOf(judge, knownGuilt);
+            int stand = first.standAgainst(judge, knownGuilt);
             if (stand == NOT_ASKED && second != null) {
-                stand = second.standOf(judge, knownGuilt);
+                stand = second.standAgainst(judge, knownGuilt);
             }
             return stand;
         }

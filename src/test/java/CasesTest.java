@@ -277,6 +277,7 @@ public final class CasesTest {
         Due.votes(x, 5, 0, "N");
         Due.is("2 guilty of 3 cleared", x.unlike(0, 8), 2);
         Due.is("by marks", x.unlike(0, 7), 0);
+        Due.is("by no mark at all", x.unlike(3, 0), 1);
         x.appeal(1);
         Due.is("an appealed one is not like", x.unlike(0, 8), 1);
         Due.votes(x, 1, 1, "NNN");

@@ -59,6 +59,8 @@ public final class JudgesTest {
         Due.is("kin(3, 39, 0)", x.kin(3, 39, 0), 1);
         Due.is("it may judge once more", x.may(3, c), 1);
         Due.is("kin(3, 7, 0): 39 - 32, another writer", x.kin(3, 7, 0), 0);
+        Due.is("kin(0, 0, 1)", x.kin(0, 0, 1), 0);
+        Due.is("kin(0, 0, 0)", x.kin(0, 0, 0), 1);
         Due.is("give(3)", x.give(3), c);
         Due.is("kin(3, 39, 1)", x.kin(3, 39, 1), 0);
         Due.is("a GIFT stays, though the writer is KIN from now", x.told(3, 3), 1);
@@ -369,6 +371,10 @@ public final class JudgesTest {
         Due.is("each time apart: the first", x.told(0, 7) * 10 + x.told(1, 7), 1);
         Due.is("each time apart: the second", x.told(3, 7) * 10 + x.told(7, 7), 1);
         Due.is("asked of in the second", x.told(3, 6), 1);
+        int alone = Due.judgedCase(x, 0, 1, 0);
+        Due.is("judge 0 alone cleared it: it stood with itself", x.told(0, 6) * 10 + x.told(0, 7), 20);
+        x.known(alone, 0);
+        Due.is("and with what is known", x.told(0, 7), 0);
         x.known(c, 1);
         Due.is("what is known goes ahead", x.told(3, 7) * 10 + x.told(7, 7), 10);
     }

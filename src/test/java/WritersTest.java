@@ -89,6 +89,12 @@ public final class WritersTest {
         }
         Due.is("GONE from tick 0", y.writer(0, 6), 0);
         Due.is("GONE at tick 0", y.writer(0, 2), 1);
+        y.tick(1);
+        Due.judgedCase(y, 0, 0, 1);
+        Due.is("a later LEVEL 3 changes nothing", y.writer(0, 6), 0);
+        Due.is("another writer is not GONE", y.writer(1, 2), 0);
+        Due.is("nor from any tick", y.writer(1, 6), -1);
+        Due.is("warned by each", y.writer(0, 3), 5);
     }
 
     private static void promise25WriterAsOfNow() {
