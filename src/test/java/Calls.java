@@ -1,11 +1,29 @@
-/** Every call of the face by its number, so that a random run can choose among them. */
+/** Every call of the face by its number, so that a random run or a written one can choose among them. */
 final class Calls {
     static final int KINDS = 28;
+    static final int WRITER = 23;
+    static final int KNOWN = 19;
     static final String[] NAMES = {"tick", "rule", "ladder", "due", "limit", "post", "complain", "judge", "kin", "rest",
         "next", "give", "undo", "vote", "may", "told", "about", "judged", "appeal", "known", "late", "like", "unlike",
         "writer", "level", "hidden", "count", "check"};
+    /** How many arguments each of them takes. */
+    static final int[] ARGUMENTS = {1, 4, 2, 2, 1, 3, 2, 4, 3, 2, 1, 1, 0, 3, 2, 2, 2, 2, 1, 2, 0, 2, 2, 2, 1, 1, 1, 0};
 
     private Calls() {
+    }
+
+    /** The number of the promise that tells of this kind: they stand in the order of the face, behind the first. */
+    static int promiseOf(int kind) {
+        return kind + 2;
+    }
+
+    static int kindOf(String name) {
+        for (int kind = 0; kind < KINDS; kind++) {
+            if (NAMES[kind].equals(name)) {
+                return kind;
+            }
+        }
+        throw new IllegalArgumentException("no call " + name);
     }
 
     static int call(ModeratorsBench x, int kind, int a, int b, int c, int d) {
