@@ -1,13 +1,13 @@
 /** The edges of promises 18 to 24: about, judged, appeal, known, late, like, unlike. */
 final class CasesEdges extends Edges {
-    private static final String ABOUT_ANSWERS = "4 how many VOTES it ASKS for (0 if it is neither OPEN nor APPEALED), "
-        + "5 GIFTS of it, 6 by how much it is LATE (0 likewise), 7 how often it was judged. NONE. (How many voted is not "
-        + "told ahead of the judgement.)";
+    private static final String ABOUT_ANSWERS = "Of a CASE: 0 POST, 1 RULE, 2 STATE, 3 COMPLAINTS, 4 how many VOTES it ASKS "
+        + "for (0 if it is neither OPEN nor APPEALED), 5 GIFTS of it, 6 by how much it is LATE (0 likewise), 7 how often it "
+        + "was judged. NONE. (How many voted is not told ahead of the judgement.)";
     private static final String JUDGED_ANSWERS = "Of the latest judgement of a CASE: 0 VOTES, 1 g, 2 n. NONE; NOT: it was "
         + "never judged.";
     private static final String APPEAL_ANSWERS = "A CASE is APPEALED: 1. NONE; NOT: it is not GUILTY (state 2).";
-    private static final String GUILT_STANDS = "a CASE that is GUILTY becomes APPEALED (until it is judged anew its GUILT "
-        + "stands)";
+    private static final String GUILT_STANDS = "An APPEAL: a CASE that is GUILTY becomes APPEALED (until it is judged anew its "
+        + "GUILT stands)";
     private static final String KNOWN_ANSWERS = "What a CASE should be judged is KNOWN (guilty 1, 0), or not any more (-1): "
         + "what it was (-1: not). -5: there is no such case, or guilty is not as said.";
     private static final String LATE_ANSWERS = "The CASE that is LATE by most (of several the first). NOT: none is.";

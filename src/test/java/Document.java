@@ -8,18 +8,17 @@ import java.util.regex.Matcher;
 import java.util.regex.Pattern;
 
 /**
- * ../shared/DOC.md and which of its words the tests of the edges quote. A quote that the document does not have, a
- * boundary that nobody quotes, and a promise without a test for a term that it uses are all told as wrong.
+ * ../shared/DOC.md and which of its words the tests of the edges quote. A quote that the document does not have, words
+ * of it that nobody quotes, and a promise without a test for a term that it uses are all told as wrong.
  */
 final class Document {
     static final int PROMISES = 29;
     static final String REFUSED = "What is refused changes nothing.";
     private static final Path FILE = Path.of("../shared/DOC.md");
 
-    /** What makes a sentence one that names a boundary. */
-    private static final Pattern BOUNDARY = Pattern.compile("-?\\d+ \\.\\. \\d+|at most|at least|at first|at last|fewer|"
-        + "more than|first counted|of several|for good|never|none|neither|nobody|beyond|as many|refused|twice|"
-        + "\\bNONE\\b|\\bFULL\\b|\\bNOT\\b|-5");
+    /** What says nothing that could hold or not: the headings, a promise's signature, and words that join. */
+    private static final Pattern SILENT = Pattern.compile("## (?:What it is|The public face|Terms)|"
+        + "## Promise \\d+: (?:A new object|\\w+) `[^`]*`:|======== \\d|, each with |, and |[^\\w-]");
 
     /** Terms that name a boundary: the word, as promises use it, and the quote that stands for it. */
     private static final String[][] TERMS = {
@@ -70,14 +69,18 @@ final class Document {
         }
     }
 
-    void everyBoundaryIsQuoted() {
+    /** What stands behind the last promise promises nothing, so it is no section. */
+    void everySentenceIsQuoted() {
         for (int p = 0; there && p <= PROMISES; p++) {
-            Matcher found = BOUNDARY.matcher(sections[p]);
-            while (found.find()) {
-                String around = sections[p].substring(Math.max(0, found.start() - 60),
-                    Math.min(sections[p].length(), found.end() + 30));
-                Due.holds("section " + p + ": a test quotes \"" + around + "\"", quoted[p][found.start()]);
+            for (Matcher found = SILENT.matcher(sections[p]); found.find(); ) {
+                Arrays.fill(quoted[p], found.start(), found.end(), true);
             }
+            StringBuilder left = new StringBuilder();
+            for (int i = 0; i < quoted[p].length; i++) {
+                left.append(quoted[p][i] ? ' ' : sections[p].charAt(i));
+            }
+            Due.holds("section " + p + ": no test quotes these words: " + left.toString().replaceAll(" +", " "),
+                left.toString().isBlank());
         }
     }
 

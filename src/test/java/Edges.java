@@ -15,15 +15,16 @@ abstract class Edges {
     static final String FOLLOWS = "what FOLLOWS: 0 HIDDEN (at first), 1 WARNED, 2 STRIKE.";
     static final String CASES = "CASES 0 .. 399, as they came";
     static final String ONE_CASE = "(there is one case at most of these two)";
-    static final String STATES = "0 OPEN, 1 CLEARED, 2 GUILTY, 3 APPEALED (OPEN once more), 4 CLEARED for good, "
-        + "5 GUILTY for good (behind an appeal).";
+    static final String STATES = "STATES of a CASE: 0 OPEN, 1 CLEARED, 2 GUILTY, 3 APPEALED (OPEN once more), "
+        + "4 CLEARED for good, 5 GUILTY for good (behind an appeal).";
     static final String JUDGES = "JUDGES 0 .. 19";
     static final String SKILLS = "SKILLS (RULES of which they may judge, as bits; none at first)";
     static final String KIN = "KIN (WRITERS whom they may not judge; none)";
     static final String LOAD = "LOAD (how many GIFTS they may have at once; 2 at first)";
     static final String WEIGHT = "WEIGHT (1 .. 10; 1 at first)";
     static final String REST = "whether they REST (not at first)";
-    static final String ASKS = "ASKS for so many VOTES: 1, 3, 5 by the GRADE that its RULE had when it came";
+    static final String ASKS = "A CASE that is OPEN or APPEALED ASKS for so many VOTES: 1, 3, 5 by the GRADE that its "
+        + "RULE had when it came";
     static final String APPEALED = "when it is APPEALED 2 more than it ASKED for at last, at most 9, of which none is "
         + "there yet";
     static final String GIFT = "A GIFT is a CASE that a JUDGE has and did not vote on yet.";
@@ -32,8 +33,8 @@ abstract class Edges {
     static final String MAY_RULE = "its RULE is among the SKILLS, the WRITER of its POST is no KIN";
     static final String MAY_JUDGE = "the JUDGE has it not as a GIFT and never voted on it, does not REST, and has fewer "
         + "GIFTS than LOAD.";
-    static final String NEXT = "the one with the greatest HARM (its RULE's, now) times REACH; of several the one that "
-        + "came first.";
+    static final String NEXT = "NEXT of a JUDGE: of the CASES that it MAY have, the one with the greatest HARM (its "
+        + "RULE's, now) times REACH; of several the one that came first.";
     static final String FADE = "a STRIKE holds from its POST's TICK on for FADE ticks (that many, the first one counted; "
         + "1 .. 10000, 100 at first)";
     static final String QUIET = "by LEVEL 1 the WRITER is SILENT for QUIET ticks from that TICK on, by LEVEL 2 for twice "
@@ -48,10 +49,11 @@ abstract class Edges {
         + "known() that is not refused.";
     static final String DOUBT = "a VOTE on a KNOWN CASE is held against what is KNOWN, another one against what its CASE "
         + "was judged this time (if it is judged by now).";
-    static final String LIKE = "CASES of one RULE that are CLEARED or GUILTY (for good or not; APPEALED ones are not), "
-        + "whose POSTS' MARKS differ in at most d bits.";
-    static final String LATE = "late by how many ticks it waits (from the TICK at which it came, or was APPEALED) beyond "
-        + "DUE (now; 1 .. 1000; 10, 20, 30 at first) of the GRADE that its RULE had when it came, 0 at least.";
+    static final String LIKE = "LIKE: CASES of one RULE that are CLEARED or GUILTY (for good or not; APPEALED ones are "
+        + "not), whose POSTS' MARKS differ in at most d bits.";
+    static final String LATE = "LATE: a CASE that is OPEN or APPEALED is late by how many ticks it waits (from the TICK "
+        + "at which it came, or was APPEALED) beyond DUE (now; 1 .. 1000; 10, 20, 30 at first) of the GRADE that its "
+        + "RULE had when it came, 0 at least.";
     static final String DUE = LATE;
     static final String FIRST_NAMED = "Answers, the first that a call names: NONE (-1): there is no such thing, or a "
         + "number is not as said; FULL (-2); THERE (-3); NOT (-4): as told.";

@@ -11,6 +11,9 @@ final class JudgesEdges extends Edges {
     private static final String TOLD_ANSWERS = "Of a JUDGE: 0 SKILLS, 1 LOAD, 2 WEIGHT, 3 GIFTS, 4 whether it RESTS, "
         + "5 VOTES in all, 6 DOUBT: ASKED of, 7 STOOD ALONE. NONE.";
 
+    private static final String ASKED_OF = "DOUBT of a JUDGE: of its VOTES on CASES that were judged (each time apart, when "
+        + "it voted), and on those that are KNOWN: how many were ASKED of, and how many STOOD ALONE";
+
     private JudgesEdges() {
     }
 
@@ -213,8 +216,7 @@ final class JudgesEdges extends Edges {
             "told(3, 6) = 0; told(2, 6) = 1; told(2, 7) = 1;", votes(0, 7, "G", 4), "told(3, 6) = 1; told(3, 7) = 0;",
             "told(7, 7) = 1; told(0, 7) = 0; told(2, 7) = 1; known(0, 0) = -1; told(0, 7) = 1; told(2, 7) = 0;",
             "told(3, 7) = 0; told(7, 7) = 1; told(0, 6) = 1; told(7, 6) = 1");
-        edge(17, "of its VOTES on CASES that were judged (each time apart, when it voted), and on those that are KNOWN",
-            three, "known(0, 1) = -1; told(0, 6) = 0;", votes(0, 0, "N", 0), "told(0, 6) = 1; told(0, 7) = 1;",
+        edge(17, ASKED_OF, three, "known(0, 1) = -1; told(0, 6) = 0;", votes(0, 0, "N", 0), "told(0, 6) = 1; told(0, 7) = 1;",
             "told(1, 6) = 0; told(0, 5) = 1;", votes(0, 1, "NN", 1), "told(0, 6) = 1; told(0, 7) = 1; told(2, 7) = 1");
     }
 }

@@ -1,8 +1,8 @@
 /** The edges of promises 7 and 8: post, complain. */
 final class PostsEdges extends Edges {
     private static final String POST_ANSWERS = "A new POST: its number. NONE, FULL.";
-    private static final String CASE_ANSWERS = "the CASE (a new one, or that of these two; in whatever state it is). NONE, "
-        + "FULL.";
+    private static final String CASE_ANSWERS = "A COMPLAINT of a POST by a RULE: the CASE (a new one, or that of these two; "
+        + "in whatever state it is). NONE, FULL.";
 
     private PostsEdges() {
     }

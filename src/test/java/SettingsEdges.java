@@ -66,7 +66,7 @@ final class SettingsEdges extends Edges {
         edge(2, TICKS, "tick(1) = 1; tick(1000) = 1001;", none("tick(#)", "0", "1001", "-1", "-1000", "MIN", "MAX"),
             "count(5) = 1001; tick(2) = 1003");
         edge(2, TICK, none("tick(#)", "0"), "tick(1) = 1; tick(1) = 2");
-        edge(2, "An object is used for at most 512 calls after it has been made",
+        edge(2, "An object is used for at most 512 calls after it has been made; what later calls answer is free.",
             each(1, 512, "tick(1000) = #000;"));
     }
 

@@ -3,7 +3,8 @@ final class VotesEdges extends Edges {
     private static final String VOTE_ANSWERS = "A JUDGE votes on a GIFT (guilty 1, 0): the STATE of the CASE then. NONE; "
         + "NOT: it is none of its GIFTS.";
     private static final String ALL_THERE = "When a CASE has as many VOTES as it ASKS for";
-    private static final String AGREED = "it is AGREED if 3 g or 3 n is at least 2 g + 2 n";
+    private static final String AGREED = "g being the WEIGHTS of those for GUILTY, n of the others together, it is AGREED if "
+        + "3 g or 3 n is at least 2 g + 2 n";
     private static final String MORE = "if not, and it was asked for MORE fewer than twice (this time) and ASKS for at most "
         + "7: it ASKS for 2 more.";
     private static final String JUDGED = "Else it is judged: GUILTY if g is more than n, else CLEARED (for good, if it was "

@@ -1,10 +1,12 @@
 /** The edges of promises 25 to 29: writer, level, hidden, count, check. */
 final class WritersEdges extends Edges {
-    private static final String WRITER_ANSWERS = "6 the TICK from which GONE (-1: not). NONE (6 may be -1, too).";
+    private static final String WRITER_ANSWERS = "Of a WRITER, as of now: 0 STRIKES that hold, 1 whether SILENT, 2 whether GONE "
+        + "(1, 0), 3 how often WARNED, 4 POSTS, 5 of these HIDDEN, 6 the TICK from which GONE (-1: not). NONE (6 may be -1, "
+        + "too).";
     private static final String LEVEL_ANSWERS = "The LEVEL of the STRIKE of a CASE; NONE: there is no such case; NOT: it has "
         + "none.";
-    private static final String ORDER = "all CASES that are GUILTY, GUILTY for good, or APPEALED, whose RULE lets STRIKE "
-        + "follow (now), are gone through by the TICK of their POSTS, then by POST, then by CASE";
+    private static final String ORDER = "WHAT FOLLOWS for a WRITER: all CASES that are GUILTY, GUILTY for good, or APPEALED, whose "
+        + "RULE lets STRIKE follow (now), are gone through by the TICK of their POSTS, then by POST, then by CASE";
     private static final String HIDDEN_ANSWERS = "1 if a POST is HIDDEN, else 0. NONE.";
     private static final String COUNT_ANSWERS = "How many: 0 POSTS, 1 CASES, 2 of these OPEN or APPEALED, 3 GIFTS, "
         + "4 judgements, 5 TICK. NONE.";
